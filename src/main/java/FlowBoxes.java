@@ -91,7 +91,9 @@ public final class FlowBoxes {
         if (!hasRoom(around)) {
             throw new IllegalStateException();
         }
-        return insertNode(around, place, 0);
+        int number = insertNode(around, place, 0);
+        layAgain();
+        return number;
     }
 
     public int text(int parent, int place, int size)
@@ -106,7 +108,9 @@ public final class FlowBoxes {
         if (!hasRoom(around)) {
             throw new IllegalStateException();
         }
-        return insertNode(around, place, size);
+        int number = insertNode(around, place, size);
+        layAgain();
+        return number;
     }
 
     public int word(int text, int length, int cut)
@@ -124,7 +128,8 @@ public final class FlowBoxes {
         node.lengths[node.wordCount] = length;
         node.cuts[node.wordCount] = cut;
         node.wordCount++;
-        noteChange(node, false);
+        noteChange(node);
+        layAgain();
         return node.wordCount;
     }
 
@@ -137,7 +142,8 @@ public final class FlowBoxes {
             throw new IllegalStateException();
         }
         node.wordCount--;
-        noteChange(node, false);
+        noteChange(node);
+        layAgain();
         return node.wordCount;
     }
 
@@ -156,7 +162,8 @@ public final class FlowBoxes {
             count++;
         }
         around.takeOut(gone);
-        noteChange(around, false);
+        noteChange(around);
+        layAgain();
         return count;
     }
 
@@ -183,7 +190,11 @@ public final class FlowBoxes {
         int before = node.styles[style];
         if (before != value) {
             node.styles[style] = value;
-            noteChange(node, reachesInside(style));
+            noteChange(node);
+            if (reachesInside(style)) {
+                noteChangeInside(node);
+            }
+            layAgain();
         }
         return before;
     }
@@ -410,7 +421,7 @@ public final class FlowBoxes {
         nodes[number] = node;
         made++;
         around.putIn(node, place);
-        noteChange(around, false);
+        noteChange(around);
         return number;
     }
 
@@ -453,17 +464,17 @@ public final class FlowBoxes {
                 || style == COLUMNS;
     }
 
-    private void noteChange(Node node, boolean allInIt) {
+    private void noteChange(Node node) {
         turn++;
         for (Node at = node; at != null; at = at.parent) {
             at.changedAt = turn;
         }
-        if (allInIt) {
-            for (Node at = node; at != null; at = Node.onward(at, node, true)) {
-                at.changedAt = turn;
-            }
+    }
+
+    private void noteChangeInside(Node node) {
+        for (Node at = node; at != null; at = Node.onward(at, node, true)) {
+            at.changedAt = turn;
         }
-        layAgain();
     }
 
     private void layAgain() {
@@ -609,11 +620,11 @@ public final class FlowBoxes {
 
         /** What the outer width has beyond the width. */
         private int flatRim() {
-            return flatEdges() + counted[MARGIN_LEFT] + counted[MARGIN_RIGHT];
+            return counted[MARGIN_LEFT] + counted[EDGE_LEFT] + counted[EDGE_RIGHT] + counted[MARGIN_RIGHT];
         }
 
         private int uprightRim() {
-            return uprightEdges() + counted[MARGIN_TOP] + counted[MARGIN_BOTTOM];
+            return counted[MARGIN_TOP] + counted[EDGE_TOP] + counted[EDGE_BOTTOM] + counted[MARGIN_BOTTOM];
         }
 
         private int countChildren() {
@@ -1898,7 +1909,13 @@ public final class FlowBoxes {
 
         /** Answers the height of the rows together. */
         private int layTable(Node table, Place place) {
-            placeColumns(table, place.wide);
+            int columns = Measures.countColumns(table);
+            int room = Math.max(0, place.wide - (columns - 1));
+            if (table.counted[EVEN] == 1) {
+                placeEvenly(table, columns, room);
+            } else {
+                placeByContent(table, columns, room);
+            }
             int y = 0;
             boolean any = false;
             for (Node row = table.first; row != null; row = row.next) {
@@ -1936,41 +1953,34 @@ public final class FlowBoxes {
             return highest;
         }
 
-        private void placeColumns(Node table, int width) {
-            int columns = Measures.countColumns(table);
-            if (columns == 0) {
+        private void placeEvenly(Node table, int columns, int room) {
+            if (columns <= 0) {
                 return;
             }
-            int room = Math.max(0, width - (columns - 1));
-            if (table.counted[EVEN] == 1) {
-                int x = 0;
-                for (int column = 0; column < columns; column++) {
-                    placeColumn(table, column, x, room / columns);
-                    x += room / columns + 1;
-                }
-                return;
+            int wide = room / columns;
+            for (int column = 0; column < columns; column++) {
+                placeColumn(table, column, column * (wide + 1), wide);
             }
-            placeByContent(table, columns, room);
         }
 
         private void placeByContent(Node table, int columns, int room) {
             int least = 0;
-            int most = 0;
+            int lack = 0;
             for (int column = 0; column < columns; column++) {
                 least += Measures.leastOfColumn(table, column);
-                most += Measures.mostOfColumn(table, column);
+                lack += lackOf(table, column);
             }
-            int lack = most - least;
-            // With room for all that they can take, each gets its most width.
-            int rest = most <= room ? lack : Math.max(0, room - least);
+            // With room for all that they can take, each gets all that it lacks.
+            int rest = Math.max(0, Math.min(lack, room - least));
             int over = rest;
             for (int column = 0; column < columns; column++) {
-                over -= shareOf(table, column, rest, lack);
+                over -= shareOf(rest, lackOf(table, column), lack);
             }
             int x = 0;
             for (int column = 0; column < columns; column++) {
-                int wide = Measures.leastOfColumn(table, column) + shareOf(table, column, rest, lack);
-                if (over > 0 && Measures.mostOfColumn(table, column) > Measures.leastOfColumn(table, column)) {
+                int own = lackOf(table, column);
+                int wide = Measures.leastOfColumn(table, column) + shareOf(rest, own, lack);
+                if (over > 0 && own > 0) {
                     wide++;
                     over--;
                 }
@@ -1979,9 +1989,12 @@ public final class FlowBoxes {
             }
         }
 
-        private static int shareOf(Node table, int column, int rest, int lack) {
-            int own = Measures.mostOfColumn(table, column) - Measures.leastOfColumn(table, column);
-            return lack <= 0 ? 0 : rest * own / lack;
+        private static int lackOf(Node table, int column) {
+            return Measures.mostOfColumn(table, column) - Measures.leastOfColumn(table, column);
+        }
+
+        private static int shareOf(int rest, int own, int all) {
+            return all <= 0 ? 0 : rest * own / all;
         }
 
         private void placeColumn(Node table, int column, int x, int wide) {
