@@ -1520,7 +1520,6 @@ public final class FlowBoxes {
                 return;
             }
             if (place.laidAt < box.changedAt || place.toldWidth != width || place.toldHeight != known) {
-                place.bars = 0;
                 if (box.scrolls) {
                     place.laidHigh = layWithBars(box, place);
                 } else if (box.counted[COLUMNS] > 1) {

@@ -36,7 +36,7 @@ public final class ModelTest {
 
     public static void main(String[] args) {
         long from = args.length > 0 ? Long.parseLong(args[0]) : 1;
-        long runs = args.length > 1 ? Long.parseLong(args[1]) : 400;
+        long runs = args.length > 1 ? Long.parseLong(args[1]) : 1500;
         for (long seed = from; seed < from + runs && wrong == 0; seed++) run(seed);
         System.out.println(wrong == 0 ? "the model agrees" : wrong + " answers differ");
         if (wrong != 0) System.exit(1);
@@ -59,19 +59,19 @@ public final class ModelTest {
         }
     }
 
-    /** What a run leans to, so that all parts of the document are met. */
+    /** What a run leans to, so that all parts of the document are met together. */
     private static final class Tune {
-        final int display, floats, position, context, columns, margins, texts, deep;
+        final int margins, texts, deep, nodes;
+        final int[] often;
 
         Tune(Random r) {
-            display = r.nextInt(4);
-            floats = r.nextInt(4);
-            position = r.nextInt(4);
-            context = r.nextInt(4);
-            columns = r.nextInt(4);
             margins = r.nextInt(4);
             texts = 1 + r.nextInt(3);
             deep = r.nextInt(3);
+            nodes = r.nextInt(3) == 0 ? 60 : 4 + r.nextInt(16);
+            int[] kinds = {0, 1, 3, 14, 17};
+            often = new int[4 + r.nextInt(5)];
+            for (int k = 0; k < often.length; k++) often[k] = k < 2 ? kinds[r.nextInt(5)] : r.nextInt(21);
         }
     }
 
@@ -85,6 +85,7 @@ public final class ModelTest {
         boolean isBox = n != null && !n.text;
         boolean isText = n != null && n.text;
         int choice = r.nextInt(24);
+        if (choice < 7 && model.all.size() >= tune.nodes) choice = 23;
         if (choice < 4) {
             int place = isBox ? r.nextInt(n.kids.size() + 1) - (r.nextInt(30) == 0 ? 1 : 0) : 0;
             told.append("box(" + node + ", " + place + ")\n");
@@ -146,13 +147,7 @@ public final class ModelTest {
     }
 
     private static void setStyle(FlowBoxes boxes, PlainModel model, Random r, Tune tune, int node) {
-        int style = r.nextInt(21);
-        if (r.nextInt(3) == 0) {
-            int[] often = {0, 1, 3, 14, 17, 4, 5, 2};
-            int[] lean = {tune.display, tune.floats, tune.position, tune.context, tune.columns, 2, 2, tune.floats};
-            int k = r.nextInt(often.length);
-            if (r.nextInt(4) < lean[k] + 1) style = often[k];
-        }
+        int style = r.nextInt(3) > 0 ? tune.often[r.nextInt(tune.often.length)] : r.nextInt(21);
         int value = value(r, style, tune);
         told.append("style(" + node + ", " + style + ", " + value + ")\n");
         int s = style;
