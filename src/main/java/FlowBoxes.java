@@ -1475,7 +1475,7 @@ public final class FlowBoxes {
         private static int widthIn(Node box, int width, int left) {
             int style = box.counted[WIDTH];
             if (style >= PERCENT) {
-                return width * (style - PERCENT) / 100;
+                return partOf(width, style - PERCENT, 100);
             }
             if (style >= 0) {
                 return style;
@@ -1495,9 +1495,14 @@ public final class FlowBoxes {
         private static int heightIn(Node box, int aroundKnown) {
             int style = box.counted[HEIGHT];
             if (style >= PERCENT) {
-                return aroundKnown < 0 ? UNKNOWN : aroundKnown * (style - PERCENT) / 100;
+                return aroundKnown < 0 ? UNKNOWN : partOf(aroundKnown, style - PERCENT, 100);
             }
             return style >= 0 ? style : UNKNOWN;
+        }
+
+        /** So many of all parts, rounded down; longer than an int, as tables in tables may be very wide. */
+        private static int partOf(int whole, int parts, int all) {
+            return all <= 0 ? 0 : (int) ((long) whole * parts / all);
         }
 
         private int knownHeight(Node box) {
@@ -1973,12 +1978,12 @@ public final class FlowBoxes {
             int rest = Math.max(0, Math.min(lack, room - least));
             int over = rest;
             for (int column = 0; column < columns; column++) {
-                over -= shareOf(rest, lackOf(table, column), lack);
+                over -= partOf(rest, lackOf(table, column), lack);
             }
             int x = 0;
             for (int column = 0; column < columns; column++) {
                 int own = lackOf(table, column);
-                int wide = Measures.leastOfColumn(table, column) + shareOf(rest, own, lack);
+                int wide = Measures.leastOfColumn(table, column) + partOf(rest, own, lack);
                 if (over > 0 && own > 0) {
                     wide++;
                     over--;
@@ -1990,10 +1995,6 @@ public final class FlowBoxes {
 
         private static int lackOf(Node table, int column) {
             return Measures.mostOfColumn(table, column) - Measures.leastOfColumn(table, column);
-        }
-
-        private static int shareOf(int rest, int own, int all) {
-            return all <= 0 ? 0 : rest * own / all;
         }
 
         private void placeColumn(Node table, int column, int x, int wide) {

@@ -12,7 +12,6 @@ abstract class Check {
         int go();
     }
 
-
     static void due(String what, long got, long want) {
         checked++;
         if (got != want) {
@@ -37,6 +36,51 @@ abstract class Check {
         if (got != want) {
             wrong++;
             System.out.println(what + ": threw " + got + ", due is " + want);
+        }
+    }
+
+    /** The answer, or I, A or S for the exception that came. */
+    private static String told(Call call) {
+        try {
+            return call.go() + " ";
+        } catch (IndexOutOfBoundsException e) {
+            return "I ";
+        } catch (IllegalArgumentException e) {
+            return "A ";
+        } catch (IllegalStateException e) {
+            return "S ";
+        }
+    }
+
+    /** All that can be asked of all nodes and of the painting, but for the work. */
+    static String all(FlowBoxes x) {
+        StringBuilder all = new StringBuilder();
+        for (int node = 0; node < 60; node++) {
+            int n = node;
+            all.append("node ").append(n).append(": ").append(told(() -> x.x(n))).append(told(() -> x.y(n)));
+            all.append(told(() -> x.width(n))).append(told(() -> x.height(n))).append(told(() -> x.children(n)));
+            all.append(told(() -> x.least(n))).append(told(() -> x.most(n))).append(told(() -> x.bars(n)));
+            all.append(told(() -> x.lines(n)));
+            for (int what = 0; what < 4; what++) {
+                int w = what;
+                all.append(told(() -> x.fromNothing(n, w)));
+            }
+            for (int k = 0; k < 100; k++) {
+                int place = k / 5;
+                int what = k % 5;
+                all.append(told(() -> x.line(n, place, what))).append(told(() -> x.wordAt(n, place, what)));
+            }
+            all.append('\n');
+        }
+        for (int place = 0; place < x.painted(); place++) all.append(x.paint(place)).append(' ');
+        return all.toString();
+    }
+
+    static void same(String what, String got, String want) {
+        checked++;
+        if (!got.equals(want)) {
+            wrong++;
+            System.out.println(what + ": not the same");
         }
     }
 

@@ -382,7 +382,7 @@ final class PlainModel {
 
     private static int widthOf(Node n, int w, int left) {
         int v = st(n, 4);
-        if (v >= 1000) return w * (v - 1000) / 100;
+        if (v >= 1000) return (int) (w * (v - 1000L) / 100);
         if (v >= 0) return v;
         if (v == -2) return least(n);
         if (v == -3) return most(n);
@@ -825,7 +825,7 @@ final class PlainModel {
         if (st(t, 20) == 0 && sumMost > r && r > sumLeast) {
             int rest = r - sumLeast, over = rest;
             for (int c = 0; c < n; c++) {
-                int share = rest * (most.get(c) - least.get(c)) / (sumMost - sumLeast);
+                int share = (int) ((long) rest * (most.get(c) - least.get(c)) / (sumMost - sumLeast));
                 wide[c] += share;
                 over -= share;
             }
