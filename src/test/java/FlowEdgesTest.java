@@ -127,6 +127,17 @@ public final class FlowEdgesTest extends Check {
         due("a context clears likewise", x.y(d), 7);
         set(x, d, CLEAR, 1);
         due("the left ones only", x.y(d), 1);
+        FlowBoxes y = new FlowBoxes();
+        box(y, 0, FLOAT, 1, WIDTH, 2, HEIGHT, 9);
+        box(y, 0, FLOAT, 1, WIDTH, 2, HEIGHT, 4);
+        box(y, 0, FLOAT, 2, WIDTH, 2, HEIGHT, 7);
+        box(y, 0, FLOAT, 2, WIDTH, 2, HEIGHT, 2);
+        int e = box(y, 0, CLEAR, 1, HEIGHT, 1);
+        due("the greatest of the left ones", y.y(e), 9);
+        set(y, e, CLEAR, 2);
+        due("the greatest of the right ones", y.y(e), 7);
+        set(y, e, CLEAR, 3);
+        due("the greatest of all", y.y(e), 9);
     }
 
     /** "if its edge at the top is above 0, the margins end". */
@@ -549,6 +560,9 @@ public final class FlowEdgesTest extends Check {
         set(x, b, WIDTH, 1000, EDGE_LEFT, 0);
         set(x, f, WIDTH, 20);
         place("no percent of it in no room", x, b, 20, 0, 0, 1);
+        int t = text(x, b, 1, 5);
+        place("whatever its least width is", x, b, 20, 0, 0, 1);
+        x.remove(t);
         set(x, b, WIDTH, 0);
         place("the width 0 in no room", x, b, 20, 0, 0, 1);
         set(x, b, WIDTH, 1);
@@ -716,6 +730,14 @@ public final class FlowEdgesTest extends Check {
         place("fit: 13 and 2 of 15 less 6", x, f, 1, 4, 14, 3);
         set(x, f, WIDTH, 7);
         place("9 of 9", x, f, 7, 0, 8, 3);
+        x.unword(e);
+        box(x, 0, DISPLAY, 2);
+        x.remove(t);
+        set(x, f, WIDTH, AUTO, FLOAT, 1);
+        int i = x.box(0, 0);
+        set(x, i, DISPLAY, 2);
+        place("fit: 13 and 2 of 15 less 0, behind a block of the width 0", x, f, 1, 0, 14, 3);
+        due("which is behind it then", x.x(i), 15);
     }
 
     /** "otherwise it is put as soon as the line has ended, at the new y". */

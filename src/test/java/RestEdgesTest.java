@@ -17,6 +17,8 @@ public final class RestEdgesTest extends Check {
         leastHeights();
         whereThingsAre();
         twoStrips();
+        thingsInAnotherOrder();
+        edgesOfThings();
         noBars();
         uprightBars();
         flatBars();
@@ -123,6 +125,28 @@ public final class RestEdgesTest extends Check {
             set(x, table, WIDTH, width[0]);
             for (int k = 0; k < 4; k++) due("column " + k + " in " + width[0], x.width(cells[k]), width[k + 1]);
         }
+        x.remove(cells[0]);
+        x.word(x.text(cells[1], 0, 1), 3, 1);
+        x.remove(cells[3]);
+        x.remove(cells[2]);
+        int c = box(x, row);
+        text(x, c, 1, 3, 3, 1);
+        // Least 2 and 3 (the first has a word that may be cut to 2 and 2, and 1, and 1); they lack 5 and 6.
+        set(x, table, WIDTH, 7);
+        due("1 of 1", x.width(cells[1]), 3);
+        due("0 of 1", x.width(c), 3);
+        int other = box(x, 0, DISPLAY, 3, WIDTH, 7);
+        int r = box(x, other);
+        int one = box(x, r);
+        x.word(x.text(one, 0, 1), 3, 1);
+        int five = box(x, r);
+        text(x, five, 1, 3, 1, 2);
+        // Least 2 and 3; they lack 1 and 5.
+        due("lacks 1, gets what is left", x.width(one), 3);
+        due("lacks 5, gets 0", x.width(five), 3);
+        set(x, other, WIDTH, 9);
+        due("lacks 1, gets 0 and 1", x.width(one), 3);
+        due("lacks 5, gets 2", x.width(five), 5);
     }
 
     /** "the row is as high as the highest of its cells with edges, 0 without cells"; "its own if known and more". */
@@ -368,6 +392,69 @@ public final class RestEdgesTest extends Check {
         due("columns in columns are none", x.height(inner), 7);
         due("of the full width", x.width(i), 3);
         due("c is still there", x.x(c), 6);
+        x.remove(a);
+        fewerThings();
+    }
+
+    /** A strip with fewer things behind one with more, and one above 0 ahead of it. */
+    private static void fewerThings() {
+        FlowBoxes x = new FlowBoxes();
+        int a = box(x, 0, COLUMNS, 2, WIDTH, 11);
+        box(x, a, CONTEXT, 1, HEIGHT, 10, MARGIN_TOP, -6);
+        box(x, a, CONTEXT, 1, HEIGHT, 0);
+        box(x, a, CONTEXT, 1, HEIGHT, 16);
+        int b = box(x, 0, COLUMNS, 2, WIDTH, 11, HEIGHT, 5);
+        box(x, b, CONTEXT, 1, HEIGHT, 3);
+        int c = box(x, b, CONTEXT, 1, HEIGHT, 2);
+        int p = box(x, b, HEIGHT, 4);
+        due("3 and 2 in the first column", x.y(c), x.y(b) + 3);
+        due("no thing of the other one", x.x(p), 6);
+        set(x, b, HEIGHT, 3);
+        due("3 in the first column", x.x(c), 6);
+        due("2 in the second", x.x(p), 12);
+    }
+
+    /** Things that come in another order than their tops, and places that come in another order than they are. */
+    private static void thingsInAnotherOrder() {
+        FlowBoxes x = new FlowBoxes();
+        int b = box(x, 0, COLUMNS, 2, WIDTH, 11, HEIGHT, 5);
+        int f = box(x, b, FLOAT, 1, WIDTH, 1, HEIGHT, 7);
+        int c = box(x, b, CONTEXT, 1, HEIGHT, 5);
+        int t = text(x, b, 4, 4);
+        int d = box(x, b, CONTEXT, 1, HEIGHT, 3);
+        // The float is 0 to 7, c 0 to 5, the line 5 to 9, d 9 to 12: nothing is broken at 5 and 7.
+        int[] nodes = {f, d};
+        inColumns("the line is in the float's column", x, nodes, new int[][] {{0, 0}, {1, 0}});
+        place("the line", x, t, 1, 5, 4, 4);
+        place("c", x, c, 1, 0, 4, 5);
+        x.remove(t);
+        int p = box(x, b, CLEAR, 1, EDGE_TOP, 1);
+        int e = box(x, p, CONTEXT, 1, HEIGHT, 2);
+        x.remove(d);
+        // Now e is 8 to 10: 7, where the float ends, is the one break place ahead of it.
+        place("from the float's end", x, e, 6, 1, 5, 2);
+        place("the block around it", x, p, 6, 0, 5, 3);
+        set(x, f, MARGIN_TOP, -7);
+        set(x, c, MARGIN_BOTTOM, 2);
+        place("from c's end", x, e, 6, 3, 5, 2);
+    }
+
+    /** "with their edges": a context's; an inline block is one, also where it is out of its line. */
+    private static void edgesOfThings() {
+        FlowBoxes x = new FlowBoxes();
+        int b = box(x, 0, COLUMNS, 2, WIDTH, 11, HEIGHT, 3);
+        int c = box(x, b, CONTEXT, 1, HEIGHT, 3, EDGE_TOP, 1, EDGE_BOTTOM, 1);
+        int d = box(x, b, CONTEXT, 1, HEIGHT, 2);
+        place("behind its edges", x, d, 6, 0, 5, 2);
+        place("with its edges", x, c, 0, 0, 5, 5);
+        set(x, c, DISPLAY, 2, WIDTH, 5, MARGIN_BOTTOM, -4);
+        // A line 0 to 1, but the block in it 0 to 5; d is 1 to 3.
+        place("the block out of the line is not broken", x, d, 0, 1, 5, 2);
+        set(x, d, HEIGHT, 6);
+        int e = box(x, b, HEIGHT, 1);
+        place("nor is d, beyond the block", x, e, 6, 0, 5, 1);
+        set(x, c, MARGIN_BOTTOM, 0);
+        place("no more out of the line", x, d, 6, 0, 5, 6);
     }
 
     /** "A box with CONTEXT 2 ... has no bars at first"; of others bars() is 0. */
@@ -483,6 +570,9 @@ public final class RestEdgesTest extends Check {
         due("a block in a line, 10 in all, but 14 with its edges", x.bars(s), 2);
         set(x, i, WIDTH, 7);
         due("10 with its edges", x.bars(s), 0);
+        set(x, i, WIDTH, 6, MARGIN_LEFT, 3);
+        due("11 with its margin ahead", x.bars(s), 2);
+        set(x, i, MARGIN_LEFT, 1);
         int c = box(x, s, CONTEXT, 1, WIDTH, 3);
         box(x, c, WIDTH, 50, HEIGHT, 1);
         due("what is in a context is not in the flow", x.bars(s), 0);
