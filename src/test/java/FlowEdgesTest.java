@@ -597,6 +597,24 @@ public final class FlowEdgesTest extends Check {
         place("a percentage is not of the band", x, b, 7, 4, 10, 2);
         set(x, b, MARGIN_RIGHT, 0);
         place("it fits", x, b, 7, 0, 10, 2);
+        higherThanAFloat();
+    }
+
+    /** "It goes to y, or lower": also above the float put last. */
+    private static void higherThanAFloat() {
+        FlowBoxes x = new FlowBoxes();
+        x.page(20);
+        box(x, 0, FLOAT, 1, WIDTH, 12, HEIGHT, 3);
+        int f = box(x, 0, FLOAT, 2, WIDTH, 12, HEIGHT, 5);
+        int b = box(x, 0, CONTEXT, 1, WIDTH, 8);
+        place("the float is lower", x, f, 8, 3, 12, 5);
+        place("beside the first one", x, b, 12, 0, 8, 0);
+        set(x, b, WIDTH, 9);
+        place("9 beside neither: below both", x, b, 0, 8, 9, 0);
+        set(x, b, WIDTH, 8, MARGIN_TOP, 1);
+        place("still beside the first one", x, b, 12, 1, 8, 0);
+        set(x, b, MARGIN_TOP, 3);
+        place("beside the second one", x, b, 0, 3, 8, 0);
     }
 
     /** "what is in the line, 1 if there is something, and its width are no more than the room". */

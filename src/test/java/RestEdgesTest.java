@@ -591,6 +591,7 @@ public final class RestEdgesTest extends Check {
             due("laid out again", x.latest(), 3);
             due("the box itself", x.width(s), width[0]);
         }
+        lessThanNothing();
         FlowBoxes x = new FlowBoxes();
         int s = box(x, 0, CONTEXT, 2, WIDTH, 10, HEIGHT, 4);
         text(x, s, 4, 6, 3);
@@ -600,6 +601,21 @@ public final class RestEdgesTest extends Check {
         due("and no flat one, as 10 is beyond 8", x.bars(s), 3);
         box(x, s, WIDTH, 1, HEIGHT, 1);
         due("still", x.bars(s), 3);
+    }
+
+    /** "less 2" where there are no 2: 0 is above and beyond what is left. */
+    private static void lessThanNothing() {
+        FlowBoxes x = new FlowBoxes();
+        int s = box(x, 0, CONTEXT, 2, WIDTH, 0, HEIGHT, 1);
+        int b = box(x, s, HEIGHT, 1);
+        due("0 is not beyond 0", x.bars(s), 0);
+        set(x, b, HEIGHT, 2);
+        due("0 is beyond 0 less 2", x.bars(s), 3);
+        set(x, s, WIDTH, 9);
+        set(x, b, WIDTH, 10, HEIGHT, 0);
+        due("0 is above 1 less 2", x.bars(s), 3);
+        set(x, s, HEIGHT, 2);
+        due("0 is not above 2 less 2", x.bars(s), 2);
     }
 
     /** "is in at most one other box that is so". */
