@@ -1080,7 +1080,7 @@ public final class FlowBoxes {
             waiting = null;
             firstFloat = null;
             lastFloat = null;
-            reach = 0;
+            reach = NOWHERE;
             line = null;
             things = 0;
             filled = 0;

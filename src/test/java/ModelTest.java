@@ -62,6 +62,8 @@ public final class ModelTest {
     /** What a run leans to, so that all parts of the document are met together. */
     private static final class Tune {
         final int margins, texts, deep, nodes;
+        /** Whether values at the ends of what the styles allow come often. */
+        final boolean ends;
         final int[] often;
 
         Tune(Random r) {
@@ -72,6 +74,7 @@ public final class ModelTest {
             int[] kinds = {0, 1, 3, 14, 17};
             often = new int[4 + r.nextInt(5)];
             for (int k = 0; k < often.length; k++) often[k] = k < 2 ? kinds[r.nextInt(5)] : r.nextInt(21);
+            ends = r.nextInt(3) == 0;
         }
     }
 
@@ -162,6 +165,13 @@ public final class ModelTest {
     private static final int[] LOW = {0, 0, 0, 0, -4, -1, -40, -40, -40, -40, 0, 0, 0, 0, 0, -9, -10, 1, -200, -200, 0};
     private static final int[] HIGH = {3, 2, 3, 2, 200, 200, 40, 40, 40, 40, 20, 20, 20, 20, 2, 9, 10, 4, 200, 200, 1};
 
+    private static final int[] LENGTHS = {0, 0, 1, 2, 3, -1, 200, 1000, 1001, 1099, 1100};
+    private static final int[] MARGINS = {0, 0, 1, -1, -5, 20, -20, -39, 40, -40};
+    private static final int[] EDGES = {0, 0, 1, 20};
+    private static final int[] OFFSETS = {-1000, -200, -1, 0, 200};
+    private static final int[][] ENDS = {{}, {}, {}, {}, LENGTHS, LENGTHS, MARGINS, MARGINS, MARGINS, MARGINS, EDGES, EDGES, EDGES, EDGES,
+        {2}, {-9, -1, 0, 1, 9}, {-10, 10}, {1, 2, 4}, OFFSETS, OFFSETS, {0, 1}};
+
     private static boolean allowed(int s, int v) {
         if ((s == 4 || s == 5) && v >= 1000 && v <= 1100) return true;
         if ((s == 18 || s == 19) && v == -1000) return true;
@@ -172,6 +182,7 @@ public final class ModelTest {
         if (r.nextInt(60) == 0) return LOW[style] - 1 - r.nextInt(3);
         if (r.nextInt(60) == 0) return HIGH[style] + 1 + r.nextInt(3);
         if (r.nextInt(60) == 0) return HIGH[style];
+        if (tune.ends && style >= 4 && r.nextInt(3) > 0) return ENDS[style][r.nextInt(ENDS[style].length)];
         switch (style) {
             case 4: {
                 int k = r.nextInt(8);

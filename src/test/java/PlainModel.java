@@ -494,7 +494,7 @@ final class PlainModel {
     }
 
     private static int reach(Flow f) {
-        int r = 0;
+        int r = Integer.MIN_VALUE;
         for (LineBox l : f.lines) {
             r = Math.max(r, l.left + l.wide);
             for (Item i : l.items) {

@@ -375,6 +375,24 @@ public final class RestEdgesTest extends Check {
         set(x, n, POSITION, 1, TOP, 20, LEFT, 1);
         place("where it is moved to does not count", x, n, 4, 19, 5, 1);
         due("1 high, and an edge", x.height(b), 3);
+        floatsInColumns();
+    }
+
+    /** "Boxes ... are in the last column that begins at their top": a float's, too, is that with its edges. */
+    private static void floatsInColumns() {
+        FlowBoxes x = new FlowBoxes();
+        int b = box(x, 0, COLUMNS, 2, WIDTH, 11, HEIGHT, 5);
+        box(x, b, CONTEXT, 1, HEIGHT, 5);
+        int f = box(x, b, FLOAT, 1, WIDTH, 2, HEIGHT, 4);
+        place("at 5", x, f, 6, 0, 2, 4);
+        set(x, f, MARGIN_TOP, -2);
+        place("put at 5, but from 3 on", x, f, 0, 3, 2, 4);
+        set(x, f, MARGIN_TOP, 1);
+        place("put at 5, but from 6 on", x, f, 6, 1, 2, 4);
+        set(x, f, MARGIN_TOP, 3, HEIGHT, 0);
+        int g = box(x, b, FLOAT, 2, WIDTH, 2, HEIGHT, 6, CLEAR, 3);
+        place("put at 5, but from 8 on", x, f, 6, 3, 2, 0);
+        place("the other one beside it", x, g, 9, 0, 2, 6);
     }
 
     /** One strip after another, and the same one again: each has its own break places. */
@@ -616,6 +634,35 @@ public final class RestEdgesTest extends Check {
         due("0 is above 1 less 2", x.bars(s), 3);
         set(x, s, HEIGHT, 2);
         due("0 is not above 2 less 2", x.bars(s), 2);
+        leftOfNothing();
+    }
+
+    /** "as far to the right as lines, floats' outer ends, and blocks and contexts ... do": no further, also if these are all to the left. */
+    private static void leftOfNothing() {
+        int[][] kinds = {{CONTEXT, 0}, {CONTEXT, 1}, {FLOAT, 1}, {DISPLAY, 3}};
+        for (int[] kind : kinds) {
+            FlowBoxes x = new FlowBoxes();
+            int s = box(x, 0, CONTEXT, 2, WIDTH, 0, HEIGHT, 1);
+            int b = box(x, s, WIDTH, 7, HEIGHT, 2, MARGIN_LEFT, -10);
+            set(x, b, kind);
+            due("-3 is not beyond 0 less 2", x.bars(s), 1);
+            set(x, b, WIDTH, 8);
+            due("-2 is not beyond 0 less 2", x.bars(s), 1);
+            set(x, b, WIDTH, 9);
+            due("-1 is beyond 0 less 2", x.bars(s), 3);
+            set(x, s, WIDTH, 1);
+            due("-1 is not beyond 1 less 2", x.bars(s), 1);
+            set(x, b, WIDTH, 10);
+            due("0 is beyond 1 less 2", x.bars(s), 3);
+        }
+        FlowBoxes x = new FlowBoxes();
+        int s = box(x, 0, CONTEXT, 2, WIDTH, 0, HEIGHT, 1);
+        int b = box(x, s, DISPLAY, 2, WIDTH, 0, HEIGHT, 4, MARGIN_LEFT, -9);
+        due("a line that ends at -9", x.bars(s), 1);
+        set(x, b, EDGE_LEFT, 7);
+        due("at -2", x.bars(s), 1);
+        set(x, b, EDGE_LEFT, 8);
+        due("at -1", x.bars(s), 3);
     }
 
     /** "is in at most one other box that is so". */
