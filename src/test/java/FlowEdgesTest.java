@@ -809,6 +809,34 @@ public final class FlowEdgesTest extends Check {
         place("0 and 1 in the second line", x, b, 4, 4, 0, 0);
         set(x, b, LEFT, 0);
         place("its top alone", x, b, 0, 4, 0, 0);
+        absoluteAheadOfMoves();
+    }
+
+    /** The room and y are those when it is met, whatever moves the line then. */
+    private static void absoluteAheadOfMoves() {
+        FlowBoxes x = new FlowBoxes();
+        int t = text(x, 0, 4, 5);
+        int a = box(x, 0, POSITION, 2);
+        int f = box(x, 0, FLOAT, 1, WIDTH, 7, HEIGHT, 2);
+        int b = box(x, 0, POSITION, 2);
+        text(x, 0, 4, 3);
+        place("the float moves the line", x, t, 7, 0, 5, 4);
+        place("but not what is ahead of the float", x, a, 6, 0, 0, 0);
+        place("behind it the room is another one", x, b, 13, 0, 0, 0);
+        set(x, f, FLOAT, 2);
+        place("the left side is the same", x, b, 6, 0, 0, 0);
+        FlowBoxes y = new FlowBoxes();
+        y.page(20);
+        box(y, 0, FLOAT, 1, WIDTH, 3, HEIGHT, 9);
+        text(y, 0, 4);
+        int c = box(y, 0, POSITION, 2);
+        int w = text(y, 0, 4, 17);
+        place("17 fit", y, w, 3, 0, 17, 4);
+        place("ahead of them", y, c, 3, 0, 0, 0);
+        y.unword(w);
+        y.word(w, 18, 0);
+        place("18 do not", y, w, 0, 9, 18, 4);
+        place("where the empty line was", y, c, 3, 0, 0, 0);
     }
 
     /** "its height is both together, at least 0; its baseline is y and its ascent". */
