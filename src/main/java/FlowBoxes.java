@@ -214,19 +214,19 @@ public final class FlowBoxes {
     // ---- places and sizes
 
     public int x(int node) throws IndexOutOfBoundsException, IllegalStateException {
-        return sideOf(placedAt(node), 0, kept);
+        return (int) sideOf(placedAt(node), 0, kept);
     }
 
     public int y(int node) throws IndexOutOfBoundsException, IllegalStateException {
-        return sideOf(placedAt(node), 1, kept);
+        return (int) sideOf(placedAt(node), 1, kept);
     }
 
     public int width(int node) throws IndexOutOfBoundsException, IllegalStateException {
-        return sideOf(placedAt(node), 2, kept);
+        return (int) sideOf(placedAt(node), 2, kept);
     }
 
     public int height(int node) throws IndexOutOfBoundsException, IllegalStateException {
-        return sideOf(placedAt(node), 3, kept);
+        return (int) sideOf(placedAt(node), 3, kept);
     }
 
     public int fromNothing(int node, int what)
@@ -240,7 +240,7 @@ public final class FlowBoxes {
         Node placed = placedAt(node);
         fresh.forgetAll(root);
         fresh.layAll(root, pageWidth, turn);
-        return sideOf(placed, what, fresh);
+        return (int) sideOf(placed, what, fresh);
     }
 
     public int least(int box) throws IndexOutOfBoundsException, IllegalStateException {
@@ -301,8 +301,8 @@ public final class FlowBoxes {
             throw new IllegalArgumentException();
         }
         switch (what) {
-            case 0: return node.kept.baseX + found.left;
-            case 1: return node.kept.baseY + found.top;
+            case 0: return (int) (node.kept.baseX + found.left);
+            case 1: return (int) (node.kept.baseY + found.top);
             case 2: return found.filled;
             case 3: return found.high;
             default: return found.ascent;
@@ -321,7 +321,7 @@ public final class FlowBoxes {
         if (node.kind == Kind.OUT) {
             throw new IllegalStateException();
         }
-        return pieceSide(node, 2 * word, what, kept);
+        return (int) pieceSide(node, 2 * word, what, kept);
     }
 
     // ---- painting, hits, work
@@ -484,7 +484,8 @@ public final class FlowBoxes {
         painter.arrange(root);
     }
 
-    private static int sideOf(Node node, int what, Layout layout) {
+    /** Longer than an int, as what stands behind or in very wide tables may be further off. */
+    private static long sideOf(Node node, int what, Layout layout) {
         if (node.isText()) {
             return what == 3 ? node.size : pieceSide(node, 0, what, layout);
         }
@@ -497,7 +498,7 @@ public final class FlowBoxes {
         }
     }
 
-    private static int pieceSide(Node text, int piece, int what, Layout layout) {
+    private static long pieceSide(Node text, int piece, int what, Layout layout) {
         Thing thing = layout.placeOf(text).pieceAt(piece);
         Node around = text.parent;
         if (thing == null || thing.line == null || around == null) {
@@ -516,21 +517,21 @@ public final class FlowBoxes {
             return false;
         }
         if (!node.isText()) {
-            int left = sideOf(node, 0, kept);
-            int top = sideOf(node, 1, kept);
-            return x >= left && x < left + sideOf(node, 2, kept)
-                    && y >= top && y < top + sideOf(node, 3, kept);
+            return isWithin(x, sideOf(node, 0, kept), sideOf(node, 2, kept))
+                    && isWithin(y, sideOf(node, 1, kept), sideOf(node, 3, kept));
         }
         for (int piece = 0; piece < 2 * node.wordCount; piece++) {
             // A second piece that is not there has the length 0, and so holds no point.
-            int left = pieceSide(node, piece, 0, kept);
-            int top = pieceSide(node, piece, 1, kept);
-            if (x >= left && x < left + pieceSide(node, piece, 2, kept)
-                    && y >= top && y < top + node.size) {
+            if (isWithin(x, pieceSide(node, piece, 0, kept), pieceSide(node, piece, 2, kept))
+                    && isWithin(y, pieceSide(node, piece, 1, kept), node.size)) {
                 return true;
             }
         }
         return false;
+    }
+
+    private static boolean isWithin(long point, long from, long length) {
+        return point >= from && point < from + length;
     }
 
     // ---- the classes inside
@@ -791,7 +792,7 @@ public final class FlowBoxes {
 
     /** A line of a box; its place is one in the flow of the context around it. */
     private static final class Line {
-        private int left;
+        private long left;
         private int top;
         private int filled;
         private int high;
@@ -807,7 +808,7 @@ public final class FlowBoxes {
         private int ascent;
         private int descent;
 
-        private int leftSide() {
+        private long leftSide() {
             return line == null ? 0 : line.left + offset;
         }
 
@@ -835,16 +836,16 @@ public final class FlowBoxes {
     /** What a layout found of a node, and what it remembers of it as a context. */
     private static final class Place {
         /** With the edges, in the flow of the context around it; the static place of an absolute box. */
-        private int left;
+        private long left;
         private int top;
         private int wide;
         private int high;
         private int known;
-        private int rootX;
-        private int rootY;
+        private long rootX;
+        private long rootY;
         /** From where the places in it are counted, from those of the root. */
-        private int baseX;
-        private int baseY;
+        private long baseX;
+        private long baseY;
         private boolean held;
         private Place waitingAround;
         private Line firstLine;
@@ -1428,8 +1429,8 @@ public final class FlowBoxes {
 
         private void settleInFlow(Node node, Place place, Place around) {
             boolean moved = node.counted[POSITION] == 1;
-            int x = around.baseX + (moved ? offsetOf(node.counted[LEFT]) : 0);
-            int y = around.baseY + (moved ? offsetOf(node.counted[TOP]) : 0);
+            long x = around.baseX + (moved ? offsetOf(node.counted[LEFT]) : 0);
+            long y = around.baseY + (moved ? offsetOf(node.counted[TOP]) : 0);
             if (node.kind == Kind.INLINE) {
                 place.left = inlineLeft(node, place);
                 place.top = inlineTop(node, place);
@@ -1445,9 +1446,9 @@ public final class FlowBoxes {
             Place outer = placeOf(stack);
             int left = node.counted[LEFT];
             int top = node.counted[TOP];
-            int x = left == NO_OFFSET ? around.baseX + place.left
+            long x = left == NO_OFFSET ? around.baseX + place.left
                     : outer.rootX + stack.counted[EDGE_LEFT] + left;
-            int y = top == NO_OFFSET ? around.baseY + place.top
+            long y = top == NO_OFFSET ? around.baseY + place.top
                     : outer.rootY + stack.counted[EDGE_TOP] + top;
             place.rootX = x + node.counted[MARGIN_LEFT];
             place.rootY = y + node.counted[MARGIN_TOP];
@@ -1459,7 +1460,7 @@ public final class FlowBoxes {
             return style == NO_OFFSET ? 0 : style;
         }
 
-        private static int inlineLeft(Node box, Place place) {
+        private static long inlineLeft(Node box, Place place) {
             Thing spot = place.pieceAt(0);
             return spot == null ? 0 : spot.leftSide() + box.counted[MARGIN_LEFT];
         }
@@ -1623,7 +1624,8 @@ public final class FlowBoxes {
             flow.clearFloats(styles[CLEAR]);
             place.known = knownHeight(box);
             place.wide = widthIn(box, flow.wide, flow.wide - box.flatRim());
-            place.left = flow.left + styles[MARGIN_LEFT];
+            int left = flow.left + styles[MARGIN_LEFT];
+            place.left = left;
             place.held = false;
             place.waitingAround = flow.waiting;
             flow.waiting = place;
@@ -1631,8 +1633,8 @@ public final class FlowBoxes {
                 flow.endMargins();
                 flow.y += styles[EDGE_TOP];
             }
-            flow.reachTo(place.left + place.wide + box.flatEdges());
-            flowContainer(box, flow, place.left + styles[EDGE_LEFT], place.wide);
+            flow.reachTo(left + place.wide + box.flatEdges());
+            flowContainer(box, flow, left + styles[EDGE_LEFT], place.wide);
             if (place.held) {
                 endHeldBlock(styles, place, flow);
             } else {
@@ -1678,10 +1680,11 @@ public final class FlowBoxes {
             int wanted = percentage ? Math.max(0, widthIn(box, flow.wide, 0) + rim)
                     : Measures.outerLeast(box);
             place.top = flow.findHeight(flow.y, 0, wanted);
-            place.left = flow.bandLeft + styles[MARGIN_LEFT];
+            int left = flow.bandLeft + styles[MARGIN_LEFT];
+            place.left = left;
             layOut(box, widthIn(box, flow.wide, flow.band() - rim), knownHeight(box));
             flow.y = place.top + place.high + box.uprightEdges();
-            flow.reachTo(place.left + place.wide + box.flatEdges());
+            flow.reachTo(left + place.wide + box.flatEdges());
             flow.pend(styles[MARGIN_BOTTOM]);
         }
 
@@ -1840,8 +1843,8 @@ public final class FlowBoxes {
             line.filled = flow.filled;
             line.ascent = flow.ascent;
             line.high = Math.max(0, flow.ascent + flow.descent);
-            flow.reachTo(line.left + line.filled);
-            flow.reachTo(line.left + flow.thingReach);
+            flow.reachTo(flow.bandLeft + flow.filled);
+            flow.reachTo(flow.bandLeft + flow.thingReach);
             flow.y += line.high;
             flow.things = 0;
             flow.filled = 0;
@@ -2056,7 +2059,7 @@ public final class FlowBoxes {
                 if (at.kind == Kind.BLOCK || at.kind == Kind.FLOATING || at.kind == Kind.ABSOLUTE) {
                     Place place = placeOf(at);
                     int column = strip.columnAt(place.top);
-                    place.left += column * step;
+                    place.left += (long) column * step;
                     place.top -= strip.beginOf(column);
                     if (isFlownThrough(at)) {
                         moveLines(place, step);
@@ -2068,7 +2071,7 @@ public final class FlowBoxes {
         private void moveLines(Place container, int step) {
             for (Line line = container.firstLine; line != null; line = line.next) {
                 int column = strip.columnAt(line.top);
-                line.left += column * step;
+                line.left += (long) column * step;
                 line.top -= strip.beginOf(column);
             }
         }

@@ -50,12 +50,73 @@ public final class ModelTest {
         PlainModel model = new PlainModel();
         Tune tune = new Tune(r);
         int calls = 40 + r.nextInt(160);
+        if (r.nextInt(8) == 0) {
+            calls = r.nextInt(30);
+            goFarOff(boxes, model, r);
+        }
         for (int k = 0; k < calls && wrong == 0; k++) {
             change(boxes, model, r, tune);
             due("work()", boxes.work(), model.work);
             due("latest()", boxes.latest(), model.latest);
             if (r.nextInt(8) == 0 || k == calls - 1) compareAll(boxes, model, r);
             else compareSome(boxes, model, r);
+        }
+    }
+
+    private static int grow(FlowBoxes boxes, PlainModel model, int parent, int size) {
+        if (model.all.size() >= 60 || model.depth(parent) >= 20) return parent;
+        int place = model.at(parent).kids.size();
+        told.append(size == 0 ? "box(" : "text(").append(parent + ", " + place + (size == 0 ? ")\n" : ", " + size + ")\n"));
+        int node = model.add(parent, place, size);
+        due("", size == 0 ? boxes.box(parent, place) : boxes.text(parent, place, size), node);
+        return node;
+    }
+
+    private static void put(FlowBoxes boxes, PlainModel model, int box, int... styles) {
+        for (int k = 0; k < styles.length; k += 2) {
+            told.append("style(" + box + ", " + styles[k] + ", " + styles[k + 1] + ")\n");
+            due("", boxes.style(box, styles[k], styles[k + 1]), model.style(box, styles[k], styles[k + 1]));
+        }
+    }
+
+    private static void fill(FlowBoxes boxes, PlainModel model, int parent, int size, int words, int length) {
+        int text = grow(boxes, model, parent, size);
+        for (int k = 0; text != parent && k < words; k++) {
+            told.append("word(" + text + ", " + length + ", " + length / 2 + ")\n");
+            due("", boxes.word(text, length, length / 2), model.word(text, length, length / 2));
+        }
+    }
+
+    /** Tables in tables, even ones, so that what is in their last cells is very far to the right. */
+    private static void goFarOff(FlowBoxes boxes, PlainModel model, Random r) {
+        int levels = 5 + r.nextInt(2), tables = 46 + r.nextInt(6);
+        int cell = 0;
+        for (int level = 0; level < levels; level++) {
+            int table = grow(boxes, model, cell, 0);
+            int row = grow(boxes, model, table, 0);
+            int cells = (tables - model.all.size()) / (levels - level) - r.nextInt(2);
+            for (int k = 0; k < cells; k++) cell = grow(boxes, model, row, 0);
+            put(boxes, model, table, 0, 3, 20, r.nextInt(30) == 0 ? 0 : 1);
+        }
+        put(boxes, model, 1, 3, 1, 4, -3);
+        int inner = grow(boxes, model, cell, 0);
+        put(boxes, model, inner, 17, r.nextInt(4) == 0 ? 1 : 4);
+        for (int k = 3 + r.nextInt(3); k > 0; k--) fill(boxes, model, inner, 1 + r.nextInt(4), 20, 30);
+        int around = grow(boxes, model, cell, 0);
+        put(boxes, model, around, 3, 2, 4, 1100, 5, r.nextInt(3), 17, r.nextInt(4) == 0 ? 1 : 2);
+        while (model.all.size() < 60 && r.nextInt(12) > 0) {
+            int part = grow(boxes, model, around, 0);
+            if (part == around) return;
+            int kind = model.at(part).parent.kids.size() < 3 ? r.nextInt(3) : r.nextInt(6);
+            if (kind < 2) {
+                put(boxes, model, part, 4, r.nextInt(8));
+                fill(boxes, model, part, 1 + r.nextInt(3), 20, 1 + r.nextInt(20));
+            } else {
+                int style = kind == 2 ? 0 : kind == 5 ? 3 : 1;
+                put(boxes, model, part, style, style == 1 ? 1 + r.nextInt(2) : 2);
+                put(boxes, model, part, 4, 1000 + (r.nextBoolean() ? 100 : r.nextInt(101)), 5, r.nextInt(5));
+                if (r.nextBoolean()) around = part;
+            }
         }
     }
 
@@ -218,9 +279,19 @@ public final class ModelTest {
         due("paint past the end", answer(() -> boxes.paint(order.size())), thrown(GONE));
         due("paint(-1)", answer(() -> boxes.paint(-1)), thrown(GONE));
         for (int k = 0; k < 25; k++) {
-            int x = r.nextInt(70) - 5, y = r.nextInt(50) - 5;
+            int x = aPoint(model, r, 0, 70), y = aPoint(model, r, 1, 50);
             due("hit(" + x + ", " + y + ")", boxes.hit(x, y), model.hit(x, y));
         }
+    }
+
+    /** Anywhere near the root's top left, or at a side of a node, or at the end of what an int can be. */
+    private static int aPoint(PlainModel model, Random r, int side, int far) {
+        PlainModel.Node n = model.at(r.nextInt(model.all.size()));
+        if (n != null && r.nextBoolean()) {
+            long from = model.side(n.id, side), length = model.side(n.id, side + 2);
+            if (from != PlainModel.STATE) return (int) (from + (r.nextBoolean() ? length : 0) - r.nextInt(2));
+        }
+        return r.nextInt(20) == 0 ? Integer.MAX_VALUE : r.nextInt(20) == 0 ? Integer.MIN_VALUE : r.nextInt(far) - 5;
     }
 
     private static void compareNode(FlowBoxes boxes, PlainModel model, Random r, int node) {
@@ -228,8 +299,7 @@ public final class ModelTest {
         long[] sides = {answer(() -> boxes.x(node)), answer(() -> boxes.y(node)), answer(() -> boxes.width(node)),
                 answer(() -> boxes.height(node))};
         for (int what = 0; what < 4; what++) {
-            long want = n == null ? thrown(GONE) : model.side(node, what);
-            if (want == PlainModel.STATE) want = thrown(STATE);
+            long want = n == null ? thrown(GONE) : stated(model.side(node, what));
             due("side " + what + " of " + node, sides[what], want);
             int w = what;
             if (r.nextInt(6) == 0) due("fromNothing(" + node + ", " + what + ")", answer(() -> boxes.fromNothing(node, w)), want);
@@ -247,7 +317,7 @@ public final class ModelTest {
     }
 
     private static long stated(long answer) {
-        return answer == PlainModel.STATE ? thrown(STATE) : answer;
+        return answer == PlainModel.STATE ? thrown(STATE) : (int) answer;
     }
 
     private static void compareBox(FlowBoxes boxes, PlainModel model, Random r, int node) {
@@ -268,7 +338,7 @@ public final class ModelTest {
             else if (!holds) want = thrown(what == 5 ? BAD : STATE);
             else if (k < 0 || k >= count) want = thrown(GONE);
             else if (what == 5) want = thrown(BAD);
-            else want = model.line(node, k, what);
+            else want = (int) model.line(node, k, what);
             due("line(" + node + ", " + k + ", " + what + ")", answer(() -> boxes.line(node, line, what)), want);
         }
     }
@@ -284,7 +354,7 @@ public final class ModelTest {
                 if (n == null || k < 0 || k >= count) want = thrown(GONE);
                 else if (what == 3) want = thrown(BAD);
                 else if (n.kind == PlainModel.OUT) want = thrown(STATE);
-                else want = model.piece(n, k, what);
+                else want = (int) model.piece(n, k, what);
                 due("wordAt(" + node + ", " + k + ", " + what + ")", answer(() -> boxes.wordAt(node, word, what)), want);
             }
         }

@@ -17,46 +17,48 @@ final class PlainModel {
         List<int[]> words = new ArrayList<>();
         int[] set = new int[21];
         int kind;
-        boolean table;
+        boolean table, scrolls;
+        int columns;
         boolean changed = true;
         boolean wasLaid;
-        int toldWidth, toldHeight;
-        int x, y, w, h, known, bars;
-        int finalX, finalY, originX, originY;
+        long toldWidth, toldHeight;
+        long x, y, w, h, known, bars;
+        long finalX, finalY, originX, originY;
         List<LineBox> lines = new ArrayList<>();
-        List<int[][]> pieces = new ArrayList<>();
+        List<long[][]> pieces = new ArrayList<>();
     }
 
     static final class Item {
         Node node;
-        int word, piece, offset, wide, ascent, descent;
+        int word, piece;
+        long offset, wide, ascent, descent;
     }
 
     static final class LineBox {
         Node box;
-        int left, top, wide, high, ascent;
+        long left, top, wide, high, ascent;
         List<Item> items = new ArrayList<>();
     }
 
     static final class Floater {
-        int left, top, wide, high;
+        long left, top, wide, high;
         boolean onLeft;
 
-        int right() { return left + wide; }
-        int low() { return top + high; }
+        long right() { return left + wide; }
+        long low() { return top + high; }
     }
 
     static final class Flow {
-        int y;
-        List<Integer> pending = new ArrayList<>();
+        long y;
+        List<Long> pending = new ArrayList<>();
         List<Floater> floats = new ArrayList<>();
         List<Node> unheld = new ArrayList<>();
         List<Node> boxes = new ArrayList<>();
         List<LineBox> lines = new ArrayList<>();
 
-        int pendingSum() {
-            int up = 0, down = 0;
-            for (int m : pending) {
+        long pendingSum() {
+            long up = 0, down = 0;
+            for (long m : pending) {
                 if (m > 0 && m > up) up = m;
                 if (m < 0 && m < down) down = m;
             }
@@ -205,6 +207,8 @@ final class PlainModel {
             n.kind = BLOCK;
             n.table = n.set[0] == 3;
         }
+        n.columns = n.text ? 1 : findColumns(n);
+        n.scrolls = findScrolls(n);
         for (Node k : n.kids) kinds(k);
     }
 
@@ -223,25 +227,25 @@ final class PlainModel {
         return n.set[style];
     }
 
-    private static int columns(Node n) {
+    private static int findColumns(Node n) {
         if (n.table) return 1;
         for (Node a = n.parent; a != null; a = a.parent) {
-            if (columns(a) > 1) return 1;
+            if (a.columns > 1) return 1;
         }
         return st(n, 17);
     }
 
-    private static boolean scrolls(Node n) {
-        if (n.text || st(n, 14) != 2 || n.table || columns(n) > 1) return false;
+    private static boolean findScrolls(Node n) {
+        if (n.text || st(n, 14) != 2 || n.table || n.columns > 1) return false;
         int around = 0;
-        for (Node a = n.parent; a != null; a = a.parent) if (scrolls(a)) around++;
+        for (Node a = n.parent; a != null; a = a.parent) if (a.scrolls) around++;
         return around <= 1;
     }
 
     private static boolean context(Node n) {
         if (n.text || n.kind == SPAN || n.kind == ROW) return false;
         return n.parent == null || n.kind == FLOATED || n.kind == ABSOLUTE || n.kind == INLINE || n.kind == CELL
-                || n.table || st(n, 14) != 0 || columns(n) > 1;
+                || n.table || st(n, 14) != 0 || n.columns > 1;
     }
 
     private static boolean inLines(Node n) {
@@ -291,16 +295,16 @@ final class PlainModel {
         }
     }
 
-    static int least(Node box) {
+    static long least(Node box) {
         if (box.table) return tableWidth(box, false);
-        int best = 0;
+        long best = 0;
         for (List<Node> part : parts(box)) {
             List<Node> things = new ArrayList<>();
             open(part, things);
             for (Node t : things) {
                 if (t.kind == TEXT) {
                     for (int[] word : t.words) {
-                        int wide = word[1] > 0 ? Math.max(word[1] + 1, word[0] - word[1]) : word[0];
+                        long wide = word[1] > 0 ? Math.max(word[1] + 1, word[0] - word[1]) : word[0];
                         best = Math.max(best, wide);
                     }
                 } else if (t.kind != ABSOLUTE) {
@@ -308,39 +312,39 @@ final class PlainModel {
                 }
             }
         }
-        int n = columns(box);
+        long n = box.columns;
         return n * best + n - 1;
     }
 
-    static int most(Node box) {
+    static long most(Node box) {
         if (box.table) return tableWidth(box, true);
-        int best = 0;
+        long best = 0;
         for (List<Node> part : parts(box)) {
             List<Node> things = new ArrayList<>();
             open(part, things);
-            List<Integer> wides = new ArrayList<>();
+            List<Long> wides = new ArrayList<>();
             for (Node t : things) {
-                if (t.kind == TEXT) for (int[] word : t.words) wides.add(word[0]);
+                if (t.kind == TEXT) for (int[] word : t.words) wides.add((long) word[0]);
                 else if (t.kind != ABSOLUTE) wides.add(outerMost(t));
             }
-            int sum = 0;
-            for (int wide : wides) sum += wide;
+            long sum = 0;
+            for (long wide : wides) sum += wide;
             if (wides.size() > 1) sum += wides.size() - 1;
             best = Math.max(best, sum);
         }
-        int n = columns(box);
+        long n = box.columns;
         return n * best + n - 1;
     }
 
-    private static int outerLeast(Node n) {
-        int v = st(n, 4);
-        int in = v >= 0 && v <= 200 ? v : v == -3 ? most(n) : least(n);
+    private static long outerLeast(Node n) {
+        long v = st(n, 4);
+        long in = v >= 0 && v <= 200 ? v : v == -3 ? most(n) : least(n);
         return Math.max(0, in + rimX(n));
     }
 
-    private static int outerMost(Node n) {
-        int v = st(n, 4);
-        int in = v >= 0 && v <= 200 ? v : v == -2 ? least(n) : most(n);
+    private static long outerMost(Node n) {
+        long v = st(n, 4);
+        long in = v >= 0 && v <= 200 ? v : v == -2 ? least(n) : most(n);
         return Math.max(0, in + rimX(n));
     }
 
@@ -355,11 +359,11 @@ final class PlainModel {
         return rows;
     }
 
-    private static List<Integer> columnWidths(Node table, boolean mostly) {
-        List<Integer> wides = new ArrayList<>();
+    private static List<Long> columnWidths(Node table, boolean mostly) {
+        List<Long> wides = new ArrayList<>();
         for (List<Node> row : rows(table)) {
             for (int c = 0; c < row.size(); c++) {
-                int wide = mostly ? outerMost(row.get(c)) : outerLeast(row.get(c));
+                long wide = mostly ? outerMost(row.get(c)) : outerLeast(row.get(c));
                 if (c < wides.size()) wides.set(c, Math.max(wides.get(c), wide));
                 else wides.add(wide);
             }
@@ -367,11 +371,11 @@ final class PlainModel {
         return wides;
     }
 
-    private static int tableWidth(Node table, boolean mostly) {
-        List<Integer> wides = columnWidths(table, mostly);
+    private static long tableWidth(Node table, boolean mostly) {
+        List<Long> wides = columnWidths(table, mostly);
         if (wides.isEmpty()) return 0;
-        int sum = 0, greatest = 0;
-        for (int w : wides) {
+        long sum = 0, greatest = 0;
+        for (long w : wides) {
             sum += w;
             greatest = Math.max(greatest, w);
         }
@@ -380,23 +384,23 @@ final class PlainModel {
 
     // ---- widths and heights
 
-    private static int widthOf(Node n, int w, int left) {
-        int v = st(n, 4);
-        if (v >= 1000) return (int) (w * (v - 1000L) / 100);
+    private static long widthOf(Node n, long w, long left) {
+        long v = st(n, 4);
+        if (v >= 1000) return w * (v - 1000) / 100;
         if (v >= 0) return v;
         if (v == -2) return least(n);
         if (v == -3) return most(n);
         boolean fit = v == -4 || n.kind == FLOATED || n.kind == INLINE || n.kind == ABSOLUTE || n.table;
         if (!fit) return Math.max(0, left);
-        int wide = most(n);
+        long wide = most(n);
         if (wide > left) wide = left;
         if (wide < least(n)) wide = least(n);
         return wide;
     }
 
     /** -1 is unknown. */
-    private static int knownOf(Node n, Node around) {
-        int v = st(n, 5);
+    private static long knownOf(Node n, Node around) {
+        long v = st(n, 5);
         if (n.parent == null) return -1;
         if (v >= 0 && v <= 200) return v;
         if (v < 1000 || n.kind == CELL) return -1;
@@ -431,7 +435,7 @@ final class PlainModel {
     }
 
     /** Lays a context out: its h is its height then. */
-    private void context(Node n, int width, int known) {
+    private void context(Node n, long width, long known) {
         n.w = width;
         n.known = known;
         n.bars = 0;
@@ -441,9 +445,9 @@ final class PlainModel {
         }
         boolean before = counting;
         if (!n.changed && n.wasLaid && n.toldWidth == width && n.toldHeight == known) counting = false;
-        if (scrolls(n)) {
+        if (n.scrolls) {
             scrolling(n);
-        } else if (columns(n) > 1) {
+        } else if (n.columns > 1) {
             columned(n);
         } else {
             Flow f = flow(n, width);
@@ -458,13 +462,13 @@ final class PlainModel {
         counting = before;
     }
 
-    private static int heightOf(Flow f) {
-        int h = Math.max(0, f.y);
+    private static long heightOf(Flow f) {
+        long h = Math.max(0, f.y);
         for (Floater o : f.floats) h = Math.max(h, o.low());
         return h;
     }
 
-    private Flow flow(Node n, int width) {
+    private Flow flow(Node n, long width) {
         if (counting) latest++;
         Flow f = new Flow();
         container(n, f, 0, width);
@@ -474,7 +478,7 @@ final class PlainModel {
 
     private void scrolling(Node n) {
         boolean up = false, flat = false;
-        int content;
+        long content;
         while (true) {
             Flow f = flow(n, Math.max(0, n.w - (up ? 2 : 0)));
             content = heightOf(f);
@@ -493,8 +497,8 @@ final class PlainModel {
         n.h = n.known >= 0 ? n.known : content + (flat ? 2 : 0);
     }
 
-    private static int reach(Flow f) {
-        int r = Integer.MIN_VALUE;
+    private static long reach(Flow f) {
+        long r = Long.MIN_VALUE;
         for (LineBox l : f.lines) {
             r = Math.max(r, l.left + l.wide);
             for (Item i : l.items) {
@@ -506,7 +510,7 @@ final class PlainModel {
         return r;
     }
 
-    private void container(Node box, Flow f, int x, int w) {
+    private void container(Node box, Flow f, long x, long w) {
         box.lines = new ArrayList<>();
         for (List<Node> part : parts(box)) {
             Node n = part.get(0);
@@ -527,7 +531,7 @@ final class PlainModel {
         }
     }
 
-    private void outside(Node box, Node n, Flow f, int x, int w) {
+    private void outside(Node box, Node n, Flow f, long x, long w) {
         if (n.kind == FLOATED) {
             floatIn(box, n, f, x, w, f.y + f.pendingSum());
         } else if (n.kind == ABSOLUTE) {
@@ -542,22 +546,22 @@ final class PlainModel {
     }
 
     private static void clear(Node n, Flow f) {
-        int how = st(n, 2);
+        long how = st(n, 2);
         if (how == 0) return;
-        Integer c = null;
+        Long c = null;
         for (Floater o : f.floats) {
             if (how == 3 || how == 1 && o.onLeft || how == 2 && !o.onLeft) c = c == null ? o.low() : Math.max(c, o.low());
         }
-        int to = c == null ? 0 : c;
+        long to = c == null ? 0 : c;
         if (to > f.y + f.pendingSum()) {
             f.y = to;
             f.pending.clear();
         }
     }
 
-    private void plainBlock(Node box, Node n, Flow f, int x, int w) {
+    private void plainBlock(Node box, Node n, Flow f, long x, long w) {
         f.boxes.add(n);
-        f.pending.add(st(n, 6));
+        f.pending.add((long) st(n, 6));
         clear(n, f);
         n.known = knownOf(n, box);
         n.w = widthOf(n, w, w - rimX(n));
@@ -587,27 +591,27 @@ final class PlainModel {
         } else {
             n.h = Math.max(0, f.y - n.y - st(n, 10));
         }
-        f.pending.add(st(n, 8));
+        f.pending.add((long) st(n, 8));
     }
 
-    private void contextBlock(Node box, Node n, Flow f, int x, int w) {
+    private void contextBlock(Node box, Node n, Flow f, long x, long w) {
         f.boxes.add(n);
-        f.pending.add(st(n, 6));
+        f.pending.add((long) st(n, 6));
         clear(n, f);
         f.end();
-        int wanted = st(n, 4) >= 1000 ? Math.max(0, w * (st(n, 4) - 1000) / 100 + rimX(n)) : outerLeast(n);
-        int[] band = lowered(f, x, w, f.y, 0, wanted);
+        long wanted = st(n, 4) >= 1000 ? Math.max(0, w * (st(n, 4) - 1000) / 100 + rimX(n)) : outerLeast(n);
+        long[] band = lowered(f, x, w, f.y, 0, wanted);
         n.y = band[0];
         n.x = band[1] + st(n, 9);
         context(n, widthOf(n, w, band[2] - band[1] - rimX(n)), knownOf(n, box));
         f.y = n.y + edgesY(n) + n.h;
-        f.pending.add(st(n, 8));
+        f.pending.add((long) st(n, 8));
     }
 
     /** The left and right end of the band, and 1 if a float reaches in. */
-    private static int[] band(Flow f, int x, int w, int a, int b) {
-        int left = x, right = x + w, any = 0;
-        int end = Math.max(b, a + 1);
+    private static long[] band(Flow f, long x, long w, long a, long b) {
+        long left = x, right = x + w, any = 0;
+        long end = Math.max(b, a + 1);
         for (Floater o : f.floats) {
             if (o.wide <= 0 || o.high <= 0) continue;
             if (o.top >= end || o.low() <= a) continue;
@@ -618,33 +622,33 @@ final class PlainModel {
             if (o.onLeft) left = Math.max(left, o.right());
             else right = Math.min(right, o.left);
         }
-        return new int[] {left, right, any};
+        return new long[] {left, right, any};
     }
 
     /** The height, and the left and right end of the band there. */
-    private static int[] lowered(Flow f, int x, int w, int from, int high, int wanted) {
-        int y = from;
+    private static long[] lowered(Flow f, long x, long w, long from, long high, long wanted) {
+        long y = from;
         while (true) {
-            int[] band = band(f, x, w, y, y + high);
-            if (band[1] - band[0] >= wanted || band[2] == 0) return new int[] {y, band[0], band[1]};
+            long[] band = band(f, x, w, y, y + high);
+            if (band[1] - band[0] >= wanted || band[2] == 0) return new long[] {y, band[0], band[1]};
             y = below(f, y);
         }
     }
 
-    private static int below(Flow f, int y) {
-        int next = Integer.MAX_VALUE;
+    private static long below(Flow f, long y) {
+        long next = Long.MAX_VALUE;
         for (Floater o : f.floats) if (o.low() > y) next = Math.min(next, o.low());
         return next;
     }
 
-    private void floatIn(Node box, Node n, Flow f, int x, int w, int from) {
+    private void floatIn(Node box, Node n, Flow f, long x, long w, long from) {
         context(n, widthOf(n, w, w - rimX(n)), knownOf(n, box));
         Floater o = new Floater();
         o.wide = n.w + rimX(n);
         o.high = n.h + rimY(n);
         o.onLeft = n.set[1] == 1;
-        int start = f.floats.isEmpty() ? from : Math.max(from, f.floats.get(f.floats.size() - 1).top);
-        int[] band = lowered(f, x, w, start, o.high, o.wide);
+        long start = f.floats.isEmpty() ? from : Math.max(from, f.floats.get(f.floats.size() - 1).top);
+        long[] band = lowered(f, x, w, start, o.high, o.wide);
         o.top = band[0];
         o.left = o.onLeft ? band[1] : band[2] - o.wide;
         f.floats.add(o);
@@ -657,25 +661,25 @@ final class PlainModel {
     private final class Run {
         final Node box;
         final Flow f;
-        final int x, w;
+        final long x, w;
         LineBox line = new LineBox();
-        int[] room;
+        long[] room;
         List<Node> late = new ArrayList<>();
 
-        Run(Node box, Flow f, int x, int w) {
+        Run(Node box, Flow f, long x, long w) {
             this.box = box;
             this.f = f;
             this.x = x;
             this.w = w;
         }
 
-        int filled() {
+        long filled() {
             if (line.items.isEmpty()) return 0;
             Item last = line.items.get(line.items.size() - 1);
             return last.offset + last.wide;
         }
 
-        int nextOffset() {
+        long nextOffset() {
             return line.items.isEmpty() ? 0 : filled() + 1;
         }
 
@@ -695,7 +699,7 @@ final class PlainModel {
                 } else if (n.kind == TEXT) {
                     n.pieces = new ArrayList<>();
                     for (int k = 0; k < n.words.size(); k++) {
-                        n.pieces.add(new int[2][]);
+                        n.pieces.add(new long[2][]);
                         Item i = new Item();
                         i.node = n;
                         i.word = k;
@@ -717,7 +721,7 @@ final class PlainModel {
         }
 
         void meet(Node n) {
-            int outer = widthOf(n, w, w - rimX(n)) + rimX(n);
+            long outer = widthOf(n, w, w - rimX(n)) + rimX(n);
             if (line.items.isEmpty() || outer <= room[1] - room[0] - filled()) {
                 floatIn(box, n, f, x, w, f.y);
                 room = band(f, x, w, f.y, f.y);
@@ -726,11 +730,11 @@ final class PlainModel {
             }
         }
 
-        boolean fits(int wide) {
+        boolean fits(long wide) {
             return nextOffset() + wide <= room[1] - room[0];
         }
 
-        void put(Item i, int cut) {
+        void put(Item i, long cut) {
             freshRoom();
             if (fits(i.wide)) {
                 stand(i);
@@ -759,7 +763,7 @@ final class PlainModel {
 
         void stand(Item i) {
             i.offset = nextOffset();
-            int shift = i.node.kind == INLINE ? st(i.node, 16) : 0;
+            long shift = i.node.kind == INLINE ? st(i.node, 16) : 0;
             for (Node a = i.node.parent; a.kind == SPAN; a = a.parent) shift += st(a, 16);
             i.ascent += shift;
             i.descent -= shift;
@@ -768,7 +772,7 @@ final class PlainModel {
 
         void end() {
             if (line.items.isEmpty()) return;
-            int up = Integer.MIN_VALUE, down = Integer.MIN_VALUE;
+            long up = Long.MIN_VALUE, down = Long.MIN_VALUE;
             for (Item i : line.items) {
                 up = Math.max(up, i.ascent);
                 down = Math.max(down, i.descent);
@@ -791,15 +795,15 @@ final class PlainModel {
     }
 
     private static void standAt(LineBox line) {
-        int base = line.top + line.ascent;
+        long base = line.top + line.ascent;
         for (Item i : line.items) {
-            int left = line.left + i.offset;
-            int top = base - i.ascent;
+            long left = line.left + i.offset;
+            long top = base - i.ascent;
             if (i.node.kind == INLINE) {
                 i.node.x = left + st(i.node, 9);
                 i.node.y = top + st(i.node, 6);
             } else {
-                i.node.pieces.get(i.word)[i.piece] = new int[] {left, top, i.wide};
+                i.node.pieces.get(i.word)[i.piece] = new long[] {left, top, i.wide};
             }
         }
     }
@@ -807,12 +811,12 @@ final class PlainModel {
     // ---- tables
 
     private void table(Node t) {
-        List<Integer> least = columnWidths(t, false);
-        List<Integer> most = columnWidths(t, true);
+        List<Long> least = columnWidths(t, false);
+        List<Long> most = columnWidths(t, true);
         int n = least.size();
-        int r = Math.max(0, t.w - (n - 1));
-        int[] wide = new int[n];
-        int sumLeast = 0, sumMost = 0;
+        long r = Math.max(0, t.w - (n - 1));
+        long[] wide = new long[n];
+        long sumLeast = 0, sumMost = 0;
         for (int c = 0; c < n; c++) {
             sumLeast += least.get(c);
             sumMost += most.get(c);
@@ -823,9 +827,9 @@ final class PlainModel {
             else wide[c] = least.get(c);
         }
         if (st(t, 20) == 0 && sumMost > r && r > sumLeast) {
-            int rest = r - sumLeast, over = rest;
+            long rest = r - sumLeast, over = rest;
             for (int c = 0; c < n; c++) {
-                int share = (int) ((long) rest * (most.get(c) - least.get(c)) / (sumMost - sumLeast));
+                long share = rest * (most.get(c) - least.get(c)) / (sumMost - sumLeast);
                 wide[c] += share;
                 over -= share;
             }
@@ -836,13 +840,14 @@ final class PlainModel {
                 }
             }
         }
-        int y = 0;
+        long y = 0;
         boolean first = true;
         for (Node row : t.kids) {
             if (row.text) continue;
             if (!first) y++;
             first = false;
-            int high = 0, x = 0, c = 0;
+            long high = 0, x = 0;
+            int c = 0;
             for (Node cell : row.kids) {
                 if (cell.text) continue;
                 context(cell, Math.max(0, wide[c] - edgesX(cell)), knownOf(cell, row));
@@ -866,35 +871,35 @@ final class PlainModel {
     // ---- columns
 
     private void columned(Node n) {
-        int cols = columns(n);
-        int one = Math.max(1, Math.floorDiv(n.w - (cols - 1), cols));
+        long cols = n.columns;
+        long one = Math.max(1, Math.floorDiv(n.w - (cols - 1), cols));
         Flow f = flow(n, one);
-        int height = heightOf(f);
-        List<int[]> whole = new ArrayList<>();
+        long height = heightOf(f);
+        List<long[]> whole = new ArrayList<>();
         for (LineBox l : f.lines) {
-            whole.add(new int[] {l.top, l.top + l.high});
+            whole.add(new long[] {l.top, l.top + l.high});
             for (Item i : l.items) {
-                if (i.node.kind == INLINE) whole.add(new int[] {i.node.y, i.node.y + i.node.h + edgesY(i.node)});
+                if (i.node.kind == INLINE) whole.add(new long[] {i.node.y, i.node.y + i.node.h + edgesY(i.node)});
             }
         }
-        for (Floater o : f.floats) whole.add(new int[] {o.top, o.low()});
+        for (Floater o : f.floats) whole.add(new long[] {o.top, o.low()});
         for (Node b : f.boxes) {
-            if (b.kind == BLOCK && context(b)) whole.add(new int[] {b.y, b.y + b.h + edgesY(b)});
+            if (b.kind == BLOCK && context(b)) whole.add(new long[] {b.y, b.y + b.h + edgesY(b)});
         }
-        List<Integer> breaks = new ArrayList<>();
-        breaks.add(0);
-        List<Integer> ends = new ArrayList<>();
-        for (int[] i : whole) {
+        List<Long> breaks = new ArrayList<>();
+        breaks.add(0L);
+        List<Long> ends = new ArrayList<>();
+        for (long[] i : whole) {
             ends.add(i[0]);
             ends.add(i[1]);
         }
-        for (int p : ends) {
+        for (long p : ends) {
             boolean good = p > 0 && p < height;
-            for (int[] i : whole) if (i[0] < p && i[1] > p) good = false;
+            for (long[] i : whole) if (i[0] < p && i[1] > p) good = false;
             if (good) breaks.add(p);
         }
         breaks.add(height);
-        int h = n.known;
+        long h = n.known;
         if (h < 0) {
             h = 0;
             if (height > 0) {
@@ -902,7 +907,7 @@ final class PlainModel {
                 while (begins(breaks, height, h).size() > cols) h++;
             }
         }
-        List<Integer> begins = begins(breaks, height, h);
+        List<Long> begins = begins(breaks, height, h);
         n.h = h;
         for (LineBox l : f.lines) {
             int c = columnOf(begins, l.top);
@@ -917,19 +922,19 @@ final class PlainModel {
         }
     }
 
-    private static int columnOf(List<Integer> begins, int top) {
+    private static int columnOf(List<Long> begins, long top) {
         int c = 0;
         for (int i = 0; i < begins.size(); i++) if (begins.get(i) <= top) c = i;
         return c;
     }
 
-    private static List<Integer> begins(List<Integer> breaks, int height, int h) {
-        List<Integer> begins = new ArrayList<>();
-        int s = 0;
-        begins.add(0);
+    private static List<Long> begins(List<Long> breaks, long height, long h) {
+        List<Long> begins = new ArrayList<>();
+        long s = 0;
+        begins.add(0L);
         while (s < height) {
-            int within = -1, least = Integer.MAX_VALUE;
-            for (int b : breaks) {
+            long within = -1, least = Long.MAX_VALUE;
+            for (long b : breaks) {
                 if (b > s && b <= s + h) within = Math.max(within, b);
                 if (b > s) least = Math.min(least, b);
             }
@@ -951,7 +956,7 @@ final class PlainModel {
             n.finalX = st(n, 9) + (n.set[18] == -1000 ? p.originX + n.x : at.finalX + st(at, 13) + n.set[18]);
             n.finalY = st(n, 6) + (n.set[19] == -1000 ? p.originY + n.y : at.finalY + st(at, 10) + n.set[19]);
         } else {
-            int dx = 0, dy = 0;
+            long dx = 0, dy = 0;
             if (!n.text && st(n, 3) == 1) {
                 dx = n.set[18] == -1000 ? 0 : n.set[18];
                 dy = n.set[19] == -1000 ? 0 : n.set[19];
@@ -1020,13 +1025,13 @@ final class PlainModel {
         }
     }
 
-    int hit(int x, int y) {
-        int found = -1;
+    long hit(long x, long y) {
+        long found = -1;
         for (Node n : painting()) {
             if (n.kind == SPAN) continue;
             if (n.text) {
                 for (int k = 0; k < n.words.size(); k++) {
-                    for (int[] piece : n.pieces.get(k)) {
+                    for (long[] piece : n.pieces.get(k)) {
                         if (piece != null && within(x, n.parent.originX + piece[0], piece[2])
                                 && within(y, n.parent.originY + piece[1], n.size)) found = n.id;
                     }
@@ -1038,15 +1043,15 @@ final class PlainModel {
         return found;
     }
 
-    private static boolean within(int p, int from, int length) {
+    private static boolean within(long p, long from, long length) {
         return p >= from && p < from + length;
     }
 
     // ---- answers, for good arguments; STATE stands for the state's exception
 
-    static final int STATE = Integer.MIN_VALUE;
+    static final long STATE = Long.MIN_VALUE;
 
-    int side(int id, int what) {
+    long side(int id, int what) {
         Node n = at(id);
         if (n.kind == OUT || n.kind == SPAN || n.text && n.words.isEmpty()) return STATE;
         if (n.text) return what == 3 ? n.size : piece(n, 0, what);
@@ -1055,19 +1060,19 @@ final class PlainModel {
         return what == 2 ? n.w + edgesX(n) : n.h + edgesY(n);
     }
 
-    int piece(Node n, int word, int what) {
-        int[] piece = n.pieces.get(word)[0];
+    long piece(Node n, int word, int what) {
+        long[] piece = n.pieces.get(word)[0];
         return piece[what] + (what == 0 ? n.parent.originX : what == 1 ? n.parent.originY : 0);
     }
 
-    int measure(int id, boolean mostly) {
+    long measure(int id, boolean mostly) {
         Node n = at(id);
         if (n.kind == SPAN || n.kind == ROW) return STATE;
         return mostly ? most(n) : least(n);
     }
 
-    int bars(int id) {
-        return at(id).kind == SPAN ? STATE : scrolls(at(id)) ? at(id).bars : 0;
+    long bars(int id) {
+        return at(id).kind == SPAN ? STATE : at(id).scrolls ? at(id).bars : 0;
     }
 
     boolean holdsLines(int id) {
@@ -1075,7 +1080,7 @@ final class PlainModel {
         return n.kind != SPAN && n.kind != ROW && !n.table;
     }
 
-    int line(int id, int line, int what) {
+    long line(int id, int line, int what) {
         Node n = at(id);
         LineBox l = n.lines.get(line);
         switch (what) {
