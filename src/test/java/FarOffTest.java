@@ -156,6 +156,12 @@ public final class FarOffTest extends Check {
         due("23 below the words", x.hit(GREATEST, 4), behind);
         due("23 the bottom", x.hit(GREATEST, 5), behind);
         due("23 below", x.hit(GREATEST, 6), -1);
+        set(x, box - 1, LEFT, -20);
+        set(x, behind, EDGE_LEFT, 20);
+        due("10 further", x.x(behind), GREATEST - 9);
+        due("23 its edge", x.hit(GREATEST, 1), behind);
+        due("23 no point is in the words in it", x.hit(Integer.MIN_VALUE + 15, 1), -1);
+        set(x, box - 1, LEFT, -40);
         set(x, behind, LEFT, 0);
         due("10 at the left side of the strip", x.x(behind), -40);
         due("23 there", x.hit(-40, 0), behind);
